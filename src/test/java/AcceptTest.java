@@ -2,6 +2,7 @@
 final class AcceptTest {
     public static void main(String[] args) {
         whatItSends();
+        afterAnother();
         answers();
         whenItIsFalse();
         Check.finish("AcceptTest");
@@ -17,6 +18,15 @@ final class AcceptTest {
         Check.agreed("accepted", x, 1, 0, 5000, 1, 2);
         Check.agreed("accepted: no such line of its own", x, 1, 1, 0, 1, 7);
         Check.due("accept twice", x.accept(1), false);
+    }
+
+    private static void afterAnother() {
+        CallAgents x = Check.ringing();
+        Check.comes("another INVITE", x, 1, Letter.request("INVITE", 1).branch(8).call(8).seq(8).fromTag(8), false);
+        x.accept(1);
+        Check.due("the 200 is to the first INVITE", Check.text(x, 1), "SIP/2.0 200 OK\n"
+                + "Via: SIP/2.0/UDP 0;branch=z9hG4bK1\nFrom: <sip:0>;tag=1\nTo: <sip:1>;tag=1\nCall-ID: 2\n"
+                + "CSeq: 1 INVITE\nContent-Length: 19\n\nm=5000 1 2\nm=0 1 7\n");
     }
 
     private static void answers() {

@@ -8,6 +8,7 @@ final class FlightTest {
         noMoreThanSixty();
         bringInAFullFlight();
         twiceInAFullFlight();
+        theOldestIsLost();
         Check.finish("FlightTest");
     }
 
@@ -105,6 +106,17 @@ final class FlightTest {
         Check.due("the newest is the last", callOf(x, 59), "18");
         Check.due("there is no 61st", x.sign(60, 0), CallAgents.BAD);
         Check.due("bring(60)", x.bring(60), CallAgents.BAD);
+    }
+
+    /** Eight single ones and eight times seven are 64. */
+    private static void theOldestIsLost() {
+        CallAgents x = eightCalls();
+        for (int n = 0; n < 8; n++) {
+            x.invite(0);
+            x.pass(32000);
+        }
+        Check.due("flying()", x.flying(), 60);
+        Check.due("four are lost", callOf(x, 0) + " " + callOf(x, 1) + " " + callOf(x, 4), "10 12 18");
     }
 
     private static void bringInAFullFlight() {

@@ -284,6 +284,17 @@ final class IncomingTest {
         CallAgents y = Check.talking();
         stays("200 to the one that was called", y, 1, Letter.response(OK, "INVITE", 1).toTag(1).seq(1));
         stays("200 to the one that was called", y, 1, Letter.response(OK, "INVITE", 1).toTag(1).seq(0));
+        y.hang(1);
+        Check.bringAll(y);
+        y.invite(1);
+        Check.bringAll(y);
+        y.accept(0);
+        Check.bringAll(y);
+        Check.told("called by the one that it called before", y, 0, 3, 2, 2, 3, 1, 2, 1, 5, 0);
+        for (int seq = 1; seq < 3; seq++) {
+            stays("200, but it sent no ACK in this call", y, 0,
+                    Letter.response(OK, "INVITE", 0).call(3).fromTag(2).toTag(2).seq(seq));
+        }
     }
 
     private static Letter busy() {

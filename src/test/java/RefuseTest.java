@@ -2,6 +2,7 @@
 final class RefuseTest {
     public static void main(String[] args) {
         whatItSends();
+        afterAnother();
         theOtherAcknowledges();
         whenItIsFalse();
         Check.finish("RefuseTest");
@@ -15,6 +16,15 @@ final class RefuseTest {
                 + "Via: SIP/2.0/UDP 0;branch=z9hG4bK1\nFrom: <sip:0>;tag=1\nTo: <sip:1>;tag=1\nCall-ID: 2\n"
                 + "CSeq: 1 INVITE\nContent-Length: 0\n\n");
         Check.due("refuse twice", x.refuse(1), false);
+    }
+
+    private static void afterAnother() {
+        CallAgents x = Check.ringing();
+        Check.comes("another BYE", x, 1, Letter.request("BYE", 1).branch(8).call(8).seq(8).fromTag(8), false);
+        x.refuse(1);
+        Check.due("the 486 is to the INVITE", Check.text(x, 1), "SIP/2.0 486 Busy\n"
+                + "Via: SIP/2.0/UDP 0;branch=z9hG4bK1\nFrom: <sip:0>;tag=1\nTo: <sip:1>;tag=1\nCall-ID: 2\n"
+                + "CSeq: 1 INVITE\nContent-Length: 0\n\n");
     }
 
     private static void theOtherAcknowledges() {
