@@ -876,7 +876,7 @@ public final class CallAgents {
             return true;
         }
 
-        /** The ACK of the own INVITE: SEQ is still that one's, and so is the branch, if no new one was taken. */
+        /** The ACK of the own INVITE: SEQ is still that one's; the branch is, too, if no new one was taken. */
         private void keepAck(Message response) {
             draftRequest(Message.ACK, dialog.call, dialog.ownTag);
             draft.toTagged = response.toTagged;
