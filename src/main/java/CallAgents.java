@@ -167,7 +167,9 @@ public final class CallAgents {
         static final int VIA = 7, FROM = 8, TO = 9, CALL_ID = 10, CSEQ = 11, LENGTH = 12;
         static final int FIRST_METHOD = 13, LAST_METHOD = 15;
         static final String VERSION = " SIP/2.0";
+        static final String PROTOCOL = "SIP/2.0/UDP ";
         static final String BRANCH = ";branch=z9hG4bK";
+        static final String ADDRESS = "<sip:";
         static final String TAGGED = ">;tag=";
         static final String UNTAGGED = ">";
         static final String TAG = ";tag=";
@@ -190,11 +192,11 @@ public final class CallAgents {
                 case FIRST_START + Message.GONE:
                     return "SIP/2.0 481 Gone";
                 case VIA:
-                    return "Via: SIP/2.0/UDP ";
+                    return "Via: ";
                 case FROM:
-                    return "From: <sip:";
+                    return "From: ";
                 case TO:
-                    return "To: <sip:";
+                    return "To: ";
                 case CALL_ID:
                     return "Call-ID: ";
                 case CSEQ:
@@ -456,16 +458,19 @@ public final class CallAgents {
 
         void writeAddresses(Text page) {
             page.addWord(Words.get(Words.VIA));
+            page.addWord(Words.PROTOCOL);
             page.addNumber(via);
             page.addWord(Words.BRANCH);
             page.addNumber(branch);
             page.add(Text.END);
             page.addWord(Words.get(Words.FROM));
+            page.addWord(Words.ADDRESS);
             page.addNumber(from);
             page.addWord(Words.TAGGED);
             page.addNumber(fromTag);
             page.add(Text.END);
             page.addWord(Words.get(Words.TO));
+            page.addWord(Words.ADDRESS);
             page.addNumber(to);
             page.addWord(toTagged ? Words.TAGGED : Words.UNTAGGED);
             if (toTagged) {
@@ -963,7 +968,10 @@ public final class CallAgents {
             expectSign(Text.END);
         }
 
-        /** Which header it was, as a bit. A missing one shows itself by the empty line, which fits none. */
+        /**
+         * Which header it was, as a bit. A missing one shows itself by the empty line, which fits none. One that
+         * comes again does so by its name alone, whatever stands behind it: so the name is read apart from the rest.
+         */
         private int readHeader(Message message, int seen) {
             int start = at;
             int header = choose(Words.VIA, Words.LENGTH);
@@ -973,16 +981,19 @@ public final class CallAgents {
             }
             switch (Words.VIA + header) {
                 case Words.VIA:
+                    expect(Words.PROTOCOL);
                     message.via = readAgent();
                     expect(Words.BRANCH);
                     message.branch = readNumber(HIGHEST);
                     break;
                 case Words.FROM:
+                    expect(Words.ADDRESS);
                     message.from = readAgent();
                     expect(Words.TAGGED);
                     message.fromTag = readNumber(HIGHEST);
                     break;
                 case Words.TO:
+                    expect(Words.ADDRESS);
                     message.to = readAgent();
                     expect(Words.UNTAGGED);
                     readToTag(message);

@@ -16,6 +16,7 @@ final class InjectTest {
         firstLines();
         headerNames();
         missingAndDoubled();
+        doubledNames();
         numbers();
         otherMethods();
         bodies();
@@ -138,6 +139,22 @@ final class InjectTest {
         wrong(INVITE, "To: <sip:0>\n", "\n", 0);
         String six = INVITE.substring(0, INVITE.indexOf("\n\n") + 1);
         wrong("a foreign line behind six headers", six + "Foo: 1\n\n", six.length());
+    }
+
+    /** A header comes again once its name stands there, be the rest of its line cut off or wrong. */
+    private static void doubledNames() {
+        for (String text : new String[] {INVITE, OK}) {
+            String[] lines = text.substring(0, text.indexOf("\n\n")).split("\n");
+            for (int h = 1; h < lines.length; h++) {
+                String once = lines[0] + "\n" + lines[h] + "\n";
+                int name = lines[h].indexOf(": ") + 2;
+                for (int cut = 0; cut <= lines[h].length(); cut++) {
+                    String again = lines[h].substring(0, cut);
+                    wrong(again + " comes again and is cut", once + again, once.length() + (cut < name ? cut : 0));
+                    wrong(again + "# comes again", once + again + "#", once.length() + (cut < name ? cut : 0));
+                }
+            }
+        }
     }
 
     private static void numbers() {
