@@ -1,8 +1,14 @@
 /** Counts and prints answers that are not as due, and the steps that many tests share. */
 final class Check {
     private static int wrong = 0;
+    private static String sentence = "";
 
     private Check() {
+    }
+
+    /** The words of the document that the next answers are due by; they are printed with a wrong one. */
+    static void sentence(String words) {
+        sentence = words;
     }
 
     static void due(String call, long got, long want) {
@@ -25,7 +31,8 @@ final class Check {
 
     private static void tell(String call, String got, String want) {
         wrong++;
-        System.out.println(call + " answered " + got + ", due is " + want);
+        System.out.println(call + " answered " + got + ", due is " + want
+                + (sentence.isEmpty() ? "" : " (the document: " + sentence + ")"));
     }
 
     static void finish(String name) {

@@ -1,5 +1,12 @@
+import java.util.ArrayList;
+import java.util.List;
+
 /** Promises 7 to 10: bring, twice, lose and flying. */
 final class FlightTest {
+    /** The beginning of a 486 to the first INVITE of agent 0. */
+    private static final String BUSY = "SIP/2.0 486 Busy\nVia: SIP/2.0/UDP 0;branch=z9hG4bK1\nFrom: <sip:0>;tag=1\n"
+            + "To: <sip:1>;tag=";
+
     public static void main(String[] args) {
         bring();
         twice();
@@ -9,6 +16,9 @@ final class FlightTest {
         bringInAFullFlight();
         twiceInAFullFlight();
         theOldestIsLost();
+        sixtyAndOneMore();
+        nothingInFlight();
+        eachOfSixty();
         Check.finish("FlightTest");
     }
 
@@ -40,6 +50,7 @@ final class FlightTest {
     }
 
     private static void bring() {
+        Check.sentence("Message i in flight comes to its agent, and is no more in flight: how many are then");
         CallAgents x = eightCalls();
         Check.due("bring(3)", x.bring(3), 8);
         Check.due("it is gone, the answer comes behind", calls(x), "2 4 6 10 12 14 16 8");
@@ -53,6 +64,7 @@ final class FlightTest {
     }
 
     private static void twice() {
+        Check.sentence("The same, but it stays in flight, too");
         CallAgents x = eightCalls();
         Check.due("twice(3)", x.twice(3), 9);
         Check.due("it stays", calls(x), "2 4 6 8 10 12 14 16 8");
@@ -65,6 +77,7 @@ final class FlightTest {
     }
 
     private static void lose() {
+        Check.sentence("Message i in flight is lost: how many are then");
         CallAgents x = eightCalls();
         Check.due("lose(7)", x.lose(7), 7);
         Check.due("lose(0)", x.lose(0), 6);
@@ -77,6 +90,7 @@ final class FlightTest {
     }
 
     private static void noneSuch() {
+        Check.sentence("BAD: none such");
         CallAgents x = eightCalls();
         int[] wrong = {-1, 8, 60, Integer.MIN_VALUE, Integer.MAX_VALUE};
         for (int i : wrong) {
@@ -98,6 +112,7 @@ final class FlightTest {
     }
 
     private static void noMoreThanSixty() {
+        Check.sentence("of more than 60 the oldest is lost");
         CallAgents x = full();
         Check.due("flying()", x.flying(), 60);
         Check.due("all were sent", x.told(0, 7), 63);
@@ -117,6 +132,143 @@ final class FlightTest {
         }
         Check.due("flying()", x.flying(), 60);
         Check.due("four are lost", callOf(x, 0) + " " + callOf(x, 1) + " " + callOf(x, 4), "10 12 18");
+    }
+
+    /** Eight times seven and four more sendings are just 60: the first call's seven are all there. */
+    private static CallAgents sixty() {
+        CallAgents x = Check.withMedia();
+        for (int n = 0; n < 8; n++) {
+            x.invite(0);
+            x.pass(32000);
+        }
+        x.invite(0);
+        x.pass(3500);
+        return x;
+    }
+
+    private static void isFull(String what, CallAgents x, String seventh, String last) {
+        Check.due(what + ": flying()", x.flying(), 60);
+        Check.due(what + ": message 6 is of call", callOf(x, 6), seventh);
+        Check.due(what + ": the last one", Check.text(x, 59).split("\n")[0], last);
+    }
+
+    private static void sixtyAndOneMore() {
+        Check.sentence("new ones come behind the others; of more than 60 the oldest is lost");
+        String invite = "INVITE sip:1 SIP/2.0";
+        CallAgents x = sixty();
+        isFull("just 60", x, "2", invite);
+        x.pass(4000);
+        isFull("61, by a timer", x, "4", invite);
+        x.lose(59);
+        Check.due("59", x.flying(), 59);
+        x.invite(1);
+        isFull("60 again", x, "4", "INVITE sip:0 SIP/2.0");
+        CallAgents y = sixty();
+        y.invite(1);
+        isFull("61, by a call", y, "4", "INVITE sip:0 SIP/2.0");
+        CallAgents z = sixty();
+        Check.comes("a BYE", z, 1, Letter.request("BYE", 1), false);
+        isFull("61, by a response", z, "4", "SIP/2.0 481 Gone");
+        CallAgents v = sixty();
+        Check.due("bring(0)", v.bring(0), 60);
+        isFull("one gone and one more", v, "4", "SIP/2.0 180 Ringing");
+        CallAgents w = sixty();
+        Check.due("twice(59)", w.twice(59), 60);
+        isFull("it stays and one more", w, "4", "SIP/2.0 180 Ringing");
+        Check.due("it stays", Check.text(w, 58).split("\n")[0], invite);
+        CallAgents d = sixty();
+        Check.comes("INVITE with a To tag", d, 1, Letter.request("INVITE", 1).toTag(1), true);
+        isFull("still 60", d, "2", invite);
+    }
+
+    /** Two INVITEs, and so many 486 to one of them that come behind: these have the tags 2, 3, 4 and on. */
+    private static CallAgents allDistinct(int busy) {
+        CallAgents x = Check.withMedia();
+        x.invite(1);
+        x.invite(0);
+        for (int n = 0; n < busy; n++) {
+            x.twice(1);
+        }
+        return x;
+    }
+
+    /** A message in few signs: the tag of a 486, or of an INVITE the agent that it goes to. */
+    private static String shortly(CallAgents x, int i) {
+        if (x.sign(i, 0) == 'I') {
+            return "to " + (char) x.sign(i, 11);
+        }
+        int place = BUSY.length();
+        String tag = "" + (char) x.sign(i, place);
+        return x.sign(i, place + 1) == 10 ? tag : tag + (char) x.sign(i, place + 1);
+    }
+
+    private static List<String> allShortly(CallAgents x) {
+        List<String> all = new ArrayList<>();
+        int count = x.flying();
+        for (int i = 0; i < count; i++) {
+            all.add(shortly(x, i));
+        }
+        return all;
+    }
+
+    private static List<String> due(int busy) {
+        List<String> all = new ArrayList<>(List.of("to 0", "to 1"));
+        for (int tag = 2; tag < 2 + busy; tag++) {
+            all.add("" + tag);
+        }
+        return all;
+    }
+
+    private static void eachOfSixty() {
+        for (int i = 0; i < 60; i++) {
+            Check.sentence("Message i in flight is lost: how many are then");
+            List<String> due = due(58);
+            CallAgents x = allDistinct(58);
+            Check.due("all fly", allShortly(x).toString(), due.toString());
+            due.remove(i);
+            Check.due("lose(" + i + ") of 60", x.lose(i), 59);
+            Check.due("the others stay as they were", allShortly(x).toString(), due.toString());
+            if (i >= 2) {
+                Check.sentence("Message i in flight comes to its agent, and is no more in flight");
+                CallAgents y = allDistinct(58);
+                Check.due("bring(" + i + ") of 60, answered by ACK", y.bring(i), 60);
+                Check.due("the ACK is the last one", y.sign(59, 0), 'A');
+                y.lose(59);
+                Check.due("the others stay as they were", allShortly(y).toString(), due.toString());
+            }
+        }
+        Check.sentence("new ones come behind the others; of more than 60 the oldest is lost");
+        for (int busy = 55; busy <= 59; busy++) {
+            List<String> due = due(busy);
+            CallAgents x = allDistinct(busy);
+            Check.due(busy + 2 + " were sent", allShortly(x).toString(), due.subList(Math.max(0, busy - 58), busy + 2).toString());
+        }
+    }
+
+    private static void nothingInFlight() {
+        Check.sentence("BAD: none such");
+        CallAgents x = Check.withMedia();
+        for (int i = -1; i <= 1; i++) {
+            Check.due("bring(" + i + ")", x.bring(i), CallAgents.BAD);
+            Check.due("twice(" + i + ")", x.twice(i), CallAgents.BAD);
+            Check.due("lose(" + i + ")", x.lose(i), CallAgents.BAD);
+            Check.due("sign(" + i + ", 0)", x.sign(i, 0), CallAgents.BAD);
+        }
+        x.invite(0);
+        Check.due("bring(1) of one", x.bring(1), CallAgents.BAD);
+        Check.due("twice(1) of one", x.twice(1), CallAgents.BAD);
+        Check.due("lose(1) of one", x.lose(1), CallAgents.BAD);
+        Check.due("none of these came", x.told(1, 0), 0);
+        Check.due("lose(0) of one", x.lose(0), 0);
+        Check.due("lose(0) again", x.lose(0), CallAgents.BAD);
+        Check.due("bring(0) of none", x.bring(0), CallAgents.BAD);
+        CallAgents full = sixty();
+        Check.due("sign(59, 0) of 60", full.sign(59, 0), 'I');
+        Check.due("sign(60, 0) of 60", full.sign(60, 0), CallAgents.BAD);
+        Check.due("lose(60) of 60", full.lose(60), CallAgents.BAD);
+        Check.due("twice(60) of 60", full.twice(60), CallAgents.BAD);
+        Check.due("lose(59) of 60", full.lose(59), 59);
+        Check.due("bring(59) of 59", full.bring(59), CallAgents.BAD);
     }
 
     private static void bringInAFullFlight() {

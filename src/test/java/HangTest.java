@@ -9,6 +9,7 @@ final class HangTest {
     }
 
     private static void theCallerHangs() {
+        Check.sentence("hang() in state 3: BYE (new branch, SEQ one more): 8");
         CallAgents x = Check.talking();
         Check.due("hang(0)", x.hang(0), true);
         Check.told("hanging up", x, 0, 8, 1, 1, 2, 2, 3, 2, 3, 0);
@@ -61,6 +62,7 @@ final class HangTest {
     }
 
     private static void whenItIsFalse() {
+        Check.sentence("False: none such; not in state 3");
         CallAgents x = Check.ringing();
         Check.due("hang(-1)", x.hang(-1), false);
         Check.due("hang(2)", x.hang(2), false);

@@ -9,6 +9,7 @@ final class InviteTest {
     }
 
     private static void whatItSends() {
+        Check.sentence("invite() sends INVITE (new call, tag, branch; SEQ one more; To without tag; the offer): state 1");
         CallAgents x = Check.withMedia();
         Check.due("invite(0)", x.invite(0), true);
         Check.told("called", x, 0, 1, 1, 0, 2, 1, 1, 0, 1, 0);
@@ -24,6 +25,7 @@ final class InviteTest {
     }
 
     private static void whatItForgets() {
+        Check.sentence("the other's tag is 0 until it is known, nothing is agreed any more");
         CallAgents x = Check.talking();
         Check.due("lines agreed", x.told(0, 6), 2);
         x.hang(0);
@@ -38,6 +40,7 @@ final class InviteTest {
     }
 
     private static void whenItIsFalse() {
+        Check.sentence("False: none such; not free; no media");
         CallAgents x = new CallAgents();
         Check.due("invite without media", x.invite(0), false);
         x.media(1, 1, 1);
@@ -50,6 +53,7 @@ final class InviteTest {
     }
 
     private static void freeStates() {
+        Check.sentence("In 0, 4, 9 it is FREE");
         CallAgents x = Check.withMedia();
         x.invite(0);
         Check.due("invite in 1", x.invite(0), false);

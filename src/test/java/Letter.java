@@ -85,6 +85,48 @@ final class Letter {
         return this;
     }
 
+    Letter noToTag() {
+        toTag = "";
+        return this;
+    }
+
+    int via() {
+        return via;
+    }
+
+    int branch() {
+        return branch;
+    }
+
+    int from() {
+        return from;
+    }
+
+    int fromTag() {
+        return fromTag;
+    }
+
+    int to() {
+        return to;
+    }
+
+    /** 0 where there is none. */
+    int toTag() {
+        return toTag.isEmpty() ? 0 : Integer.parseInt(toTag.substring(";tag=".length()));
+    }
+
+    int call() {
+        return call;
+    }
+
+    int seq() {
+        return seq;
+    }
+
+    String method() {
+        return method;
+    }
+
     String text() {
         return start + "\nVia: SIP/2.0/UDP " + via + ";branch=z9hG4bK" + branch
                 + "\nFrom: <sip:" + from + ">;tag=" + fromTag + "\nTo: <sip:" + to + ">" + toTag

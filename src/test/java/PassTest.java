@@ -8,10 +8,14 @@ final class PassTest {
         timersEnd();
         order();
         fromTheSendingOn();
+        wrongTimesChangeNothing();
+        equalTimes();
+        timersOfACallThatIsOver();
         Check.finish("PassTest");
     }
 
     private static void times() {
+        Check.sentence("So many milliseconds (1 .. 100,000) go by: the time. BAD: another number");
         CallAgents x = new CallAgents();
         Check.due("pass(1)", x.pass(1), 1);
         Check.due("pass(100000)", x.pass(100000), 100001);
@@ -49,6 +53,7 @@ final class PassTest {
     }
 
     private static void longGaps() {
+        Check.sentence("first 500 behind the sending, then each time twice as far from the last one; one that gives up, 32,000 behind");
         CallAgents x = Check.withMedia();
         x.pass(77);
         x.invite(0);
@@ -62,6 +67,7 @@ final class PassTest {
     }
 
     private static void shortGaps() {
+        Check.sentence("(in states 6, 7, 8 at most 4,000); one that gives up, 32,000 behind");
         int[] times = {500, 1500, 3500, 7500, 11500, 15500, 19500, 23500, 27500, 31500};
         CallAgents x = Check.ringing();
         x.accept(1);
@@ -78,6 +84,7 @@ final class PassTest {
     }
 
     private static void textsStay() {
+        Check.sentence("One that sends again (the text as it was)");
         CallAgents x = Check.withMedia();
         x.invite(0);
         x.media(0, 4004, 1);
@@ -108,6 +115,7 @@ final class PassTest {
     }
 
     private static void timersEnd() {
+        Check.sentence("They are in states 1, 6, 7, 8");
         quiet("2", Check.ringing(), 0, 2);
         quiet("5", Check.ringing(), 1, 5);
         quiet("3", Check.talking(), 0, 3);
@@ -135,6 +143,7 @@ final class PassTest {
     }
 
     private static void order() {
+        Check.sentence("in the order of their times, of equal ones agent 0 first");
         CallAgents x = Check.withMedia();
         x.invite(1);
         x.invite(0);
@@ -156,7 +165,75 @@ final class PassTest {
         }
     }
 
+    private static void wrongTimesChangeNothing() {
+        Check.sentence("So many milliseconds (1 .. 100,000) go by; BAD: another number");
+        for (int wrong : new int[] {0, -1, -500, 100001, Integer.MIN_VALUE, Integer.MAX_VALUE}) {
+            CallAgents x = Check.withMedia();
+            x.invite(0);
+            x.pass(499);
+            Check.due("pass(" + wrong + ")", x.pass(wrong), CallAgents.BAD);
+            Check.due("no timer ran out", x.flying(), 1);
+            Check.due("time stands", x.pass(1), 500);
+            Check.due("now it did", x.flying(), 2);
+        }
+        CallAgents y = Check.withMedia();
+        y.invite(0);
+        Check.due("pass(100000)", y.pass(100000), 100000);
+        Check.due("all timers", y.told(0, 7), 7);
+        Check.due("gave up", y.told(0, 0), 4);
+    }
+
+    /** Agent 0's patience ends when agent 1 sends again for the first time, and the other way round. */
+    private static void equalTimes() {
+        Check.sentence("timers up to that time (that one, too) .., of equal ones agent 0 first, resending before giving up");
+        for (int early = 0; early < 2; early++) {
+            CallAgents x = Check.withMedia();
+            x.invite(early);
+            x.pass(31500);
+            x.invite(1 - early);
+            x.pass(499);
+            Check.due("before: state", x.told(early, 0), 1);
+            Check.due("before: sent", x.told(1 - early, 7), 1);
+            Check.due("at that time", x.pass(1), 32000);
+            Check.due("it gave up", x.told(early, 0), 4);
+            Check.due("the other one sent again", x.told(1 - early, 7), 2);
+            Check.due("and goes on", x.told(1 - early, 0), 1);
+        }
+        CallAgents y = Check.talking();
+        y.hang(1);
+        y.hang(0);
+        y.pass(500);
+        Check.due("BYE of agent 0 first", y.sign(2, 8), '1');
+        Check.due("then BYE of agent 1", y.sign(3, 8), '0');
+    }
+
+    private static void timersOfACallThatIsOver() {
+        Check.sentence("giving up ends them; (timers end)");
+        CallAgents x = Check.withMedia();
+        x.invite(0);
+        x.pass(499);
+        x.twice(0);
+        x.bring(1);
+        Check.due("180 came", x.told(0, 0), 2);
+        x.pass(1);
+        Check.due("nothing is sent again", x.told(0, 7), 1);
+        CallAgents y = Check.ringing();
+        y.accept(1);
+        y.pass(499);
+        Check.comes("ACK", y, 1, Letter.request("ACK", 1), false);
+        y.pass(1);
+        Check.due("nothing is sent again", y.told(1, 7), 2);
+        CallAgents z = Check.ringing();
+        z.refuse(1);
+        z.pass(31999);
+        Check.comes("ACK", z, 1, Letter.request("ACK", 1), false);
+        Check.comes("a new INVITE", z, 1, Letter.request("INVITE", 1).call(8).branch(8), false);
+        z.pass(1);
+        Check.due("the new call is not given up", z.told(1, 0), 5);
+    }
+
     private static void fromTheSendingOn() {
+        Check.sentence("first 500 behind the sending");
         CallAgents x = Check.ringing();
         x.pass(12345);
         x.accept(1);

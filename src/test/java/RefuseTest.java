@@ -9,6 +9,7 @@ final class RefuseTest {
     }
 
     private static void whatItSends() {
+        Check.sentence("refuse(): 486: 7");
         CallAgents x = Check.ringing();
         Check.due("refuse(1)", x.refuse(1), true);
         Check.told("refused", x, 1, 7, 1, 1, 2, 0, 0, 0, 2, 0);
@@ -19,6 +20,7 @@ final class RefuseTest {
     }
 
     private static void afterAnother() {
+        Check.sentence("A response has Via, From, Call-ID, CSeq of the request, To with the own tag");
         CallAgents x = Check.ringing();
         Check.comes("another BYE", x, 1, Letter.request("BYE", 1).branch(8).call(8).seq(8).fromTag(8), false);
         x.refuse(1);
@@ -28,6 +30,7 @@ final class RefuseTest {
     }
 
     private static void theOtherAcknowledges() {
+        Check.sentence("ACK is sent (branch of the INVITE, To as it came): state 4");
         CallAgents x = Check.ringing();
         x.refuse(1);
         Check.due("bring(0)", x.bring(0), 1);
@@ -40,6 +43,7 @@ final class RefuseTest {
     }
 
     private static void whenItIsFalse() {
+        Check.sentence("False: none such; not in state 5");
         CallAgents x = Check.ringing();
         Check.due("refuse(-1)", x.refuse(-1), false);
         Check.due("refuse(2)", x.refuse(2), false);

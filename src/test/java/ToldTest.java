@@ -5,10 +5,13 @@ final class ToldTest {
         countsAllSendings();
         wrongOnes();
         lines();
+        bothSides();
+        branchOfTheLastRequest();
         Check.finish("ToldTest");
     }
 
     private static void aWholeCall() {
+        Check.sentence("0 its state, 1 own tag, 2 the other's, 3 call, 4 SEQ, 5 branch, 6 lines agreed");
         CallAgents x = Check.withMedia();
         x.invite(1);
         Check.told("calling", x, 1, 1, 1, 0, 3, 1, 1, 0, 1, 0);
@@ -31,6 +34,7 @@ final class ToldTest {
     }
 
     private static void countsAllSendings() {
+        Check.sentence("7 messages that it sent in all (each time that one was sent)");
         CallAgents x = Check.withMedia();
         for (int n = 0; n < 10; n++) {
             x.invite(0);
@@ -44,6 +48,7 @@ final class ToldTest {
     }
 
     private static void wrongOnes() {
+        Check.sentence("BAD: none such");
         CallAgents x = Check.talking();
         int[] agents = {-1, 2, Integer.MIN_VALUE, Integer.MAX_VALUE};
         for (int agent : agents) {
@@ -64,7 +69,59 @@ final class ToldTest {
         }
     }
 
+    private static void bothSides() {
+        Check.sentence("Of an agent: 0 its state, .. 8 that came and were dropped. BAD: none such");
+        CallAgents x = Check.talking();
+        for (int agent = -2; agent <= 3; agent++) {
+            for (int what = -2; what <= 12; what++) {
+                boolean there = agent >= 0 && agent <= 1 && what >= 0 && what <= 8;
+                Check.due("told(" + agent + ", " + what + ")", x.told(agent, what) != CallAgents.BAD, there);
+            }
+        }
+        Check.sentence("Of an agreed line: 0 its port, 1 how many formats, 2 and on these. BAD: none such");
+        CallAgents y = Check.ringing();
+        Letter ok = Letter.response("200 OK", "INVITE", 0).toTag(1);
+        Check.comes("200", y, 0, ok.body("m=65535 0 1 2 3 4 5 6 7\nm=0 0\nm=9 7 7 7\n"), false);
+        int[] formats = {8, 1, 3};
+        for (int agent = -1; agent <= 2; agent++) {
+            for (int i = -1; i <= 4; i++) {
+                for (int what = -2; what <= 24; what++) {
+                    boolean there = agent == 0 && i >= 0 && i < 3 && what >= 0 && what < 2 + formats[i];
+                    Check.due("line(" + agent + ", " + i + ", " + what + ")", y.line(agent, i, what) != CallAgents.BAD, there);
+                }
+            }
+        }
+        Check.due("lines", y.told(0, 6), 3);
+    }
+
+    private static void branchOfTheLastRequest() {
+        Check.sentence("BRANCH (that of its last request; 0 before one)");
+        CallAgents x = Check.withMedia();
+        Check.due("before one", x.told(1, 5), 0);
+        x.invite(0);
+        Check.due("INVITE", x.told(0, 5), 1);
+        x.bring(0);
+        Check.due("180 is no request", x.told(1, 5), 0);
+        x.bring(0);
+        x.accept(1);
+        Check.due("200 is no request", x.told(1, 5), 0);
+        x.bring(0);
+        Check.due("ACK of 200 has a new one", x.told(0, 5), 2);
+        x.bring(0);
+        x.hang(1);
+        Check.due("BYE", x.told(1, 5), 1);
+        x.pass(500);
+        Check.due("BYE again has the same", x.told(1, 5), 1);
+        CallAgents y = Check.ringing();
+        y.refuse(1);
+        y.bring(0);
+        Check.due("ACK of 486 has that of the INVITE", y.told(0, 5), 1);
+        y.invite(0);
+        Check.due("the next INVITE", y.told(0, 5), 2);
+    }
+
     private static void lines() {
+        Check.sentence("Of an agreed line: 0 its port, 1 how many formats, 2 and on these");
         CallAgents x = Check.talking();
         for (int agent = 0; agent < 2; agent++) {
             Check.due("lines", x.told(agent, 6), 2);
