@@ -109,6 +109,7 @@ final class AcceptTest {
         Check.sentence("in the order offered");
         Check.agreed("falling", answering("m=1 7 6 5 4 3 2 1 0\n", 9, 255), 1, 0, 9, 7, 6, 5, 4, 3, 2, 1, 0);
         Check.agreed("some", answering("m=1 5 0 7 5 2\n", 9, 1 + 4 + 32), 1, 0, 9, 5, 0, 5, 2);
+        Check.agreed("a port lower than its formats", answering("m=1 7 3 0\n", 1, 255), 1, 0, 1, 7, 3, 0);
     }
 
     private static void bothAgree() {

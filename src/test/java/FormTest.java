@@ -180,17 +180,30 @@ final class FormTest {
 
     private static void headersInAnyOrder() {
         Check.sentence("six HEADERS, each once, in any order");
-        List<String> headers = headersOf(BYE);
+        Letter bye = Letter.request("BYE", 1).branch(11).fromTag(22).toTag(33).call(44).seq(55).body("m=9 0\n");
+        String text = bye.text();
+        String gone = bye.start("SIP/2.0 481 Gone").body("").text();
+        String invite = Letter.request("INVITE", 1).branch(11).fromTag(22).call(44).seq(55).body("m=9 7 0\nm=8 1\n").text();
         for (int turn = 0; turn < 720; turn++) {
-            List<String> left = new ArrayList<>(headers);
-            List<String> order = new ArrayList<>();
-            int rest = turn;
-            for (int n = 6; n > 0; n--) {
-                order.add(left.remove(rest % n));
-                rest /= n;
-            }
-            right(withHeaders(BYE, order));
+            CallAgents x = new CallAgents();
+            Check.due("BYE, order " + turn, Check.inject(x, 1, withHeaders(text, turned(headersOf(text), turn))), 0);
+            Check.due("481, order " + turn, Check.text(x, 0), gone);
+            CallAgents y = Check.withMedia();
+            Check.due("INVITE, order " + turn, Check.inject(y, 1, withHeaders(invite, turned(headersOf(invite), turn))), 0);
+            y.accept(1);
+            Check.agreed("INVITE, order " + turn, y, 1, 0, 0, 7, 0);
+            Check.agreed("INVITE, order " + turn, y, 1, 1, 0, 1);
         }
+    }
+
+    private static List<String> turned(List<String> headers, int turn) {
+        List<String> order = new ArrayList<>();
+        int rest = turn;
+        for (int n = headers.size(); n > 0; n--) {
+            order.add(headers.remove(rest % n));
+            rest /= n;
+        }
+        return order;
     }
 
     private static void toTags() {

@@ -33,7 +33,7 @@ final class StatesTest {
     }
 
     private static void refusedCallsChangeNothing() {
-        Check.sentence("False");
+        Check.sentence("False: .. not free; not in state 5; not in state 3");
         for (Scene scene : Scene.values()) {
             CallAgents x = scene.make();
             int agent = scene.agent;
