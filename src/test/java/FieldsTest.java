@@ -9,8 +9,8 @@ final class FieldsTest {
     private static final String BRANCH = "branch", CALL = "call", SEQ = "SEQ", FROM_TAG = "From tag", TO_TAG = "To tag";
     private static final String NO_TO_TAG = "no To tag", METHOD = "method", BODY = "body";
     private static final String[] ALL = {BRANCH, CALL, SEQ, FROM_TAG, TO_TAG, NO_TO_TAG, METHOD, BODY};
-    /** Far from 0, so that each can be put lower, too. */
-    private static final int OTHERS_BRANCH = 21, OTHERS_CALL = 31, OTHERS_SEQ = 41, OTHERS_TAG = 51;
+    /** A tag of the other one that is told by a message from outside. */
+    private static final int OTHERS_TAG = 51;
 
     public static void main(String[] args) {
         ringing();
@@ -64,14 +64,18 @@ final class FieldsTest {
         return x;
     }
 
-    /** Agent 0 was called by the other one; its own tag is 2. */
+    /** Agent 0 has called once and is called now by the third call of agent 1: its own tag is 2, all else is 3 or more. */
     private static CallAgents ringsHere() {
         CallAgents x = Check.withMedia();
         x.invite(0);
-        x.pass(32000);
-        Check.comes("INVITE", x, 0, invite(), false);
+        for (int n = 0; n < 3; n++) {
+            x.pass(32000);
+            Check.loseAll(x);
+            x.invite(1);
+        }
+        x.bring(0);
         Check.loseAll(x);
-        Check.told("it rings", x, 0, 5, 2, OTHERS_TAG, OTHERS_CALL, 1, 1, 0, 8, 0);
+        Check.told("it rings", x, 0, 5, 2, 3, 7, 1, 1, 0, 8, 0);
         return x;
     }
 
@@ -90,8 +94,10 @@ final class FieldsTest {
     }
 
     private static CallAgents talkingCalled() {
-        CallAgents x = accepted();
-        Check.comes("ACK", x, 0, request("ACK"), false);
+        CallAgents x = ringsHere();
+        x.accept(0);
+        Check.bringAll(x);
+        Check.due("talking", x.told(0, 0), 3);
         return x;
     }
 
@@ -107,7 +113,7 @@ final class FieldsTest {
     }
 
     private static Letter request(String method) {
-        return Letter.request(method, 0).branch(OTHERS_BRANCH).call(OTHERS_CALL).seq(OTHERS_SEQ).fromTag(OTHERS_TAG);
+        return Letter.request(method, 0).branch(3).call(7).seq(3).fromTag(3);
     }
 
     private static Letter invite() {
@@ -233,7 +239,7 @@ final class FieldsTest {
         each(FieldsTest::accepted, bye, over(), CALL, FROM_TAG, TO_TAG, NO_TO_TAG);
         each(FieldsTest::talkingCalled, bye, over(), CALL, FROM_TAG, TO_TAG, NO_TO_TAG);
         each(FieldsTest::hangingCalled, bye, over(), CALL, FROM_TAG, TO_TAG, NO_TO_TAG);
-        Supplier<Letter> toTheCaller = () -> request("BYE").call(6).toTag(3);
+        Supplier<Letter> toTheCaller = () -> request("BYE").call(6).fromTag(OTHERS_TAG).toTag(3);
         each(FieldsTest::talking, toTheCaller, over(), CALL, FROM_TAG, TO_TAG, NO_TO_TAG);
         each(FieldsTest::hanging, toTheCaller, over(), CALL, FROM_TAG, TO_TAG, NO_TO_TAG);
     }

@@ -1,4 +1,9 @@
-/** What an agent does with each thing that comes to it (the document's Terms, behind promises 7, 8 and 13). */
+import java.util.function.Supplier;
+
+/**
+ * What an agent does with each thing that comes to it (the document's Terms, behind promises 7, 8 and 13): what it sends,
+ * what it keeps, and cases of more than one message. StatesTest and FieldsTest tell when something is taken.
+ */
 final class IncomingTest {
     private static final String RINGING = "180 Ringing", OK = "200 OK", BUSY = "486 Busy", GONE = "481 Gone";
 
@@ -7,40 +12,21 @@ final class IncomingTest {
         inviteToAFreeOne();
         theSameInvite();
         anotherInvite();
+        tagsOfBusy();
         ack();
         bye();
         otherByes();
         ringing();
         okToInvite();
         okAgain();
+        okToTheOneCalled();
         busyToInvite();
         busyAgain();
         endOfBye();
         Check.finish("IncomingTest");
     }
 
-    private static CallAgents calling() {
-        CallAgents x = Check.withMedia();
-        x.invite(0);
-        x.lose(0);
-        return x;
-    }
-
-    /** Agent 1 was called by an INVITE of branch 1, call 2, tag 1, SEQ 1. */
-    private static CallAgents accepted() {
-        CallAgents x = Check.ringing();
-        x.accept(1);
-        x.lose(0);
-        return x;
-    }
-
-    private static CallAgents refused() {
-        CallAgents x = Check.ringing();
-        x.refuse(1);
-        x.lose(0);
-        return x;
-    }
-
+    /** Dropped: nothing is sent and nothing is changed. */
     private static void stays(String what, CallAgents x, int agent, Letter letter) {
         int state = x.told(agent, 0);
         int flying = x.flying();
@@ -49,40 +35,51 @@ final class IncomingTest {
         Check.due(what + ": flying", x.flying(), flying);
     }
 
-    private static void becomes(String what, CallAgents x, int agent, Letter letter, int state) {
+    private static CallAgents becomes(String what, CallAgents x, int agent, Letter letter, int state) {
         Check.comes(what, x, agent, letter, false);
         Check.due(what + ": state", x.told(agent, 0), state);
+        return x;
+    }
+
+    private static String firstLine(CallAgents x, int i) {
+        StringBuilder line = new StringBuilder();
+        for (int sign = x.sign(i, 0); sign >= 32; sign = x.sign(i, line.length())) {
+            line.append((char) sign);
+        }
+        return line.toString();
     }
 
     private static void addresses() {
+        Check.sentence("a request in whose first line and To is not the agent itself, or in whose Via and From is not"
+                + " the other one");
         for (String method : new String[] {"INVITE", "BYE", "ACK"}) {
             for (int agent = 0; agent < 2; agent++) {
-                CallAgents x = new CallAgents();
-                stays(method + ", first line", x, agent,
+                stays(method + ", first line", new CallAgents(), agent,
                         Letter.request(method, agent).start(method + " sip:" + (1 - agent) + " SIP/2.0"));
-                stays(method + ", To", x, agent, Letter.request(method, agent).to(1 - agent));
-                stays(method + ", Via", x, agent, Letter.request(method, agent).via(agent));
-                stays(method + ", From", x, agent, Letter.request(method, agent).from(agent));
+                stays(method + ", To", new CallAgents(), agent, Letter.request(method, agent).to(1 - agent));
+                stays(method + ", Via", new CallAgents(), agent, Letter.request(method, agent).via(agent));
+                stays(method + ", From", new CallAgents(), agent, Letter.request(method, agent).from(agent));
+                stays(method + ", all of the other", new CallAgents(), agent, Letter.request(method, 1 - agent));
             }
         }
-        CallAgents y = calling();
-        stays("180, Via", y, 0, Letter.response(RINGING, "INVITE", 0).via(1));
-        stays("180, From", y, 0, Letter.response(RINGING, "INVITE", 0).from(1));
-        stays("180, To", y, 0, Letter.response(RINGING, "INVITE", 0).to(0));
-        stays("200, To", y, 0, Letter.response(OK, "INVITE", 0).to(0).toTag(1));
-        stays("486, Via", y, 0, Letter.response(BUSY, "INVITE", 0).via(1));
-        becomes("180", y, 0, Letter.response(RINGING, "INVITE", 0), 2);
+        Check.sentence("a response in whose Via and From is not the agent itself, or in whose To is not the other one");
+        for (String status : new String[] {RINGING, OK, BUSY}) {
+            stays(status + ", Via", Scene.CALLING.make(), 0, Letter.response(status, "INVITE", 0).toTag(1).via(1));
+            stays(status + ", From", Scene.CALLING.make(), 0, Letter.response(status, "INVITE", 0).toTag(1).from(1));
+            stays(status + ", To", Scene.CALLING.make(), 0, Letter.response(status, "INVITE", 0).toTag(1).to(0));
+            stays(status + ", all of the other", Scene.CALLING.make(), 0, Letter.response(status, "INVITE", 1).toTag(1));
+        }
+        becomes("180", Scene.CALLING.make(), 0, Letter.response(RINGING, "INVITE", 0), 2);
     }
 
     private static void inviteToAFreeOne() {
-        CallAgents x = Check.talking();
-        x.hang(1);
-        Check.bringAll(x);
-        Check.told("before", x, 1, 9, 1, 1, 2, 1, 1, 2, 3, 0);
+        Check.sentence("call, tag and branch of the other one are known; a new own tag; what is offered is kept, nothing"
+                + " is agreed any more; 180 is sent: state 5");
+        CallAgents x = Scene.OVER_BY_BYE.make();
+        Check.told("before", x, 1, 9, 1, 1, 2, 0, 0, 2, 3, 0);
         Letter invite = Letter.request("INVITE", 1).branch(40).fromTag(50).call(60).seq(70).body("m=6 1\n");
-        stays("INVITE with a To tag", x, 1, Letter.request("INVITE", 1).toTag(1));
         becomes("INVITE in 9", x, 1, invite, 5);
-        Check.told("it rings", x, 1, 5, 2, 50, 60, 1, 1, 0, 4, 1);
+        Check.told("it rings", x, 1, 5, 2, 50, 60, 0, 0, 0, 4, 0);
         Check.due("nothing is agreed any more", x.line(1, 0, 0), CallAgents.BAD);
         Check.due("the 180", Check.text(x, 0), "SIP/2.0 180 Ringing\n"
                 + "Via: SIP/2.0/UDP 0;branch=z9hG4bK40\nFrom: <sip:0>;tag=50\nTo: <sip:1>;tag=2\nCall-ID: 60\n"
@@ -90,44 +87,45 @@ final class IncomingTest {
         x.accept(1);
         Check.agreed("the new offer is answered", x, 1, 0, 5000, 1);
         Check.due("lines", x.told(1, 6), 1);
-        CallAgents y = calling();
-        y.pass(32000);
-        becomes("INVITE in 4", y, 0, Letter.request("INVITE", 0).call(3), 5);
-        CallAgents z = Check.ringing();
-        z.refuse(1);
-        Check.bringAll(z);
-        becomes("the same INVITE in 9", z, 1, Letter.request("INVITE", 1), 5);
+        becomes("INVITE in 4", Scene.GAVE_UP.make(), 0, Letter.request("INVITE", 0).call(3), 5);
+        CallAgents z = becomes("the same INVITE in 9", Scene.OVER_BY_ACK.make(), 1, Letter.request("INVITE", 1), 5);
         Check.due("has a new tag", z.told(1, 1), 2);
     }
 
     private static void theSameInvite() {
-        CallAgents x = Check.ringing();
+        Check.sentence("The same branch and call again, in 5, 6, 7: its last response again");
+        String to = "Via: SIP/2.0/UDP 0;branch=z9hG4bK1\nFrom: <sip:0>;tag=1\nTo: <sip:1>;tag=1\nCall-ID: 2\nCSeq: 1 INVITE\n";
+        String none = "Content-Length: 0\n\n", answer = "Content-Length: 19\n\nm=5000 1 2\nm=0 1 7\n";
         Letter again = Letter.request("INVITE", 1).fromTag(77).seq(78);
-        becomes("again in 5", x, 1, again, 5);
-        Check.due("180 again", Check.lastText(x).startsWith("SIP/2.0 180 Ringing\nVia: SIP/2.0/UDP 0;branch=z9hG4bK1\n"
-                + "From: <sip:0>;tag=1\nTo: <sip:1>;tag=1\nCall-ID: 2\nCSeq: 1 INVITE\n"), true);
+        CallAgents x = becomes("again in 5", Scene.RINGS_HERE.make(), 1, again, 5);
+        Check.due("180 again", Check.text(x, 0), "SIP/2.0 180 Ringing\n" + to + none);
         Check.told("nothing else", x, 1, 5, 1, 1, 2, 0, 0, 0, 2, 0);
-        x.accept(1);
-        String ok = Check.lastText(x);
-        becomes("again in 6", x, 1, again, 6);
-        Check.due("200 again", Check.lastText(x), ok);
-        CallAgents y = refused();
-        Check.comes("another INVITE in between", y, 1, Letter.request("INVITE", 1).branch(2), false);
-        becomes("again in 7", y, 1, again, 7);
-        Check.due("486 again, with its own tag", Check.lastText(y).startsWith("SIP/2.0 486 Busy\n"
-                + "Via: SIP/2.0/UDP 0;branch=z9hG4bK1\nFrom: <sip:0>;tag=1\nTo: <sip:1>;tag=1\n"), true);
-        stays("again with a To tag", y, 1, Letter.request("INVITE", 1).toTag(1));
+        CallAgents y = becomes("again in 6", Scene.ACCEPTED.make(), 1, again, 6);
+        Check.due("200 again", Check.text(y, 0), "SIP/2.0 200 OK\n" + to + answer);
+        CallAgents z = becomes("again in 7", Scene.REFUSED.make(), 1, again, 7);
+        Check.due("486 again", Check.text(z, 0), "SIP/2.0 486 Busy\n" + to + none);
+        for (Scene scene : new Scene[] {Scene.RINGS_HERE, Scene.ACCEPTED, Scene.REFUSED}) {
+            CallAgents v = scene.make();
+            Check.comes("another INVITE in between", v, 1, Letter.request("INVITE", 1).branch(2), false);
+            Check.loseAll(v);
+            becomes("then again", v, 1, again, scene.state);
+            String[] last = {RINGING, OK, BUSY};
+            String first = "SIP/2.0 " + last[scene.state - 5];
+            Check.due("its last response is that to the first one", firstLine(v, 0), first);
+            Check.due("with its own tag, not the second one", v.sign(0, first.length() + 1 + to.indexOf("1\nCall-ID")), '1');
+        }
     }
 
-    private static void isBusy(String what, CallAgents x, int agent, Letter invite, int tag) {
+    private static void isBusy(String what, Supplier<CallAgents> scene, int agent, int tag) {
+        CallAgents x = scene.get();
         int[] before = new int[9];
         for (int w = 0; w < 9; w++) {
             before[w] = x.told(agent, w);
         }
         before[7]++;
-        Check.comes(what, x, agent, invite, false);
+        Check.comes(what, x, agent, another(agent), false);
         Check.told(what, x, agent, before);
-        Check.due(what, Check.lastText(x), "SIP/2.0 486 Busy\n" + "Via: SIP/2.0/UDP " + (1 - agent)
+        Check.due(what, Check.text(x, 0), "SIP/2.0 486 Busy\n" + "Via: SIP/2.0/UDP " + (1 - agent)
                 + ";branch=z9hG4bK4\nFrom: <sip:" + (1 - agent) + ">;tag=5\nTo: <sip:" + agent + ">;tag=" + tag
                 + "\nCall-ID: 6\nCSeq: 7 INVITE\nContent-Length: 0\n\n");
     }
@@ -137,50 +135,59 @@ final class IncomingTest {
     }
 
     private static void anotherInvite() {
-        isBusy("another in 1", calling(), 0, another(0), 2);
-        isBusy("another in 2", Check.ringing(), 0, another(0), 2);
-        CallAgents x = Check.ringing();
-        isBusy("another in 5", x, 1, another(1), 2);
-        isBusy("and once more", x, 1, another(1), 3);
+        Check.sentence("Another INVITE: 486 with a new tag, nothing else");
+        for (Scene scene : Scene.values()) {
+            if (!scene.isFree()) {
+                isBusy("another in " + scene, scene::make, scene.agent, 2);
+            }
+        }
+        CallAgents x = Scene.RINGS_HERE.make();
+        Check.comes("another in 5", x, 1, another(1), false);
         x.accept(1);
+        Check.agreed("the offer is still the first one", x, 1, 0, 5000, 1, 2);
         Check.agreed("the offer is still the first one", x, 1, 1, 0, 1, 7);
-        isBusy("another in 6", accepted(), 1, another(1), 2);
-        isBusy("another in 7", refused(), 1, another(1), 2);
-        isBusy("another in 3", Check.talking(), 0, another(0), 2);
-        CallAgents y = Check.talking();
-        isBusy("another in 3", y, 1, another(1), 2);
-        y.hang(1);
-        isBusy("another in 8", y, 1, another(1), 3);
-        CallAgents z = Check.talking();
-        becomes("the same in 3 is another, too", z, 1, Letter.request("INVITE", 1), 3);
-        Check.due("486", Check.lastText(z).startsWith("SIP/2.0 486 Busy\n"), true);
-        CallAgents v = Check.ringing();
-        becomes("the same branch of another call", v, 1, Letter.request("INVITE", 1).call(4), 5);
-        Check.due("486", Check.lastText(v).startsWith("SIP/2.0 486 Busy\n"), true);
-        becomes("another branch of the same call", v, 1, Letter.request("INVITE", 1).branch(2), 5);
-        Check.due("486", Check.lastText(v).startsWith("SIP/2.0 486 Busy\n"), true);
-        becomes("a new call takes the next tag", v, 1, Letter.request("INVITE", 1), 5);
-        v.refuse(1);
-        Check.comes("ACK", v, 1, Letter.request("ACK", 1), false);
-        becomes("INVITE in 9", v, 1, Letter.request("INVITE", 1), 5);
-        Check.due("tags of 486 were counted", v.told(1, 1), 4);
+        CallAgents z = becomes("the same in 3 is another, too", Check.talking(), 1, Letter.request("INVITE", 1), 3);
+        Check.due("486", firstLine(z, 0), "SIP/2.0 486 Busy");
+        CallAgents v = becomes("the same branch of another call", Check.ringing(), 1, Letter.request("INVITE", 1).call(4), 5);
+        Check.due("486", firstLine(v, 0), "SIP/2.0 486 Busy");
+        CallAgents w = becomes("another branch of the same call", Check.ringing(), 1, Letter.request("INVITE", 1).branch(2), 5);
+        Check.due("486", firstLine(w, 0), "SIP/2.0 486 Busy");
+    }
+
+    private static void tagsOfBusy() {
+        Check.sentence("One number counts .. its tags (0 at first; each new one is one more)");
+        CallAgents x = Check.withMedia();
+        x.invite(1);
+        x.invite(0);
+        for (int n = 0; n < 3; n++) {
+            x.twice(1);
+        }
+        Check.due("the own tag stays", x.told(1, 1), 1);
+        int tag = "SIP/2.0 486 Busy\nVia: SIP/2.0/UDP 0;branch=z9hG4bK1\nFrom: <sip:0>;tag=1\nTo: <sip:1>;tag=".length();
+        for (int n = 0; n < 3; n++) {
+            Check.due("the tag of 486", x.sign(2 + n, tag), '2' + n);
+        }
+        x.pass(32000);
+        x.invite(1);
+        Check.due("a new call takes the next one", x.told(1, 1), 5);
     }
 
     private static void ack() {
-        CallAgents x = accepted();
-        stays("ACK of another call", x, 1, Letter.request("ACK", 1).call(3));
-        stays("ACK of another SEQ", x, 1, Letter.request("ACK", 1).seq(2));
-        becomes("ACK in 6, of any tags and branch", x, 1, Letter.request("ACK", 1).fromTag(8).toTag(9).branch(10), 3);
-        stays("ACK in 3", x, 1, Letter.request("ACK", 1));
-        CallAgents y = refused();
-        becomes("ACK in 7", y, 1, Letter.request("ACK", 1), 9);
-        stays("ACK in 9", y, 1, Letter.request("ACK", 1));
-        stays("ACK in 5", Check.ringing(), 1, Letter.request("ACK", 1));
+        Check.sentence("ACK of its call and the SEQ of the INVITE: 6 becomes 3, 7 becomes 9");
+        Letter any = Letter.request("ACK", 1).fromTag(8).toTag(9).branch(10).body("m=1 1\n");
+        CallAgents x = becomes("ACK in 6, of any tags and branch", Scene.ACCEPTED.make(), 1, any, 3);
+        Check.told("nothing else", x, 1, 3, 1, 1, 2, 0, 0, 2, 2, 0);
+        Check.due("nothing is sent", x.flying(), 0);
+        CallAgents y = becomes("ACK in 7", Scene.REFUSED.make(), 1, any, 9);
+        Check.told("nothing else", y, 1, 9, 1, 1, 2, 0, 0, 0, 2, 0);
         CallAgents z = new CallAgents();
         Check.comes("INVITE of a high SEQ", z, 1, Letter.request("INVITE", 1).seq(500), false);
         z.accept(1);
-        stays("ACK of its own SEQ", z, 1, Letter.request("ACK", 1).seq(0));
         becomes("ACK of the INVITE's", z, 1, Letter.request("ACK", 1).seq(500), 3);
+        CallAgents v = new CallAgents();
+        Check.comes("INVITE of a high SEQ", v, 1, Letter.request("INVITE", 1).seq(500), false);
+        v.accept(1);
+        stays("ACK of its own SEQ", v, 1, Letter.request("ACK", 1).seq(0));
     }
 
     private static Letter goodBye(int agent) {
@@ -188,56 +195,50 @@ final class IncomingTest {
     }
 
     private static void bye() {
-        CallAgents x = Check.talking();
-        becomes("BYE in 3", x, 0, goodBye(0), 9);
-        Check.due("200", Check.lastText(x), "SIP/2.0 200 OK\n"
+        Check.sentence("BYE of its call, with both tags, in 3, 6 or 8: 200: state 9");
+        CallAgents x = becomes("BYE in 3", Check.talking(), 0, goodBye(0), 9);
+        Check.due("200", Check.text(x, 0), "SIP/2.0 200 OK\n"
                 + "Via: SIP/2.0/UDP 1;branch=z9hG4bK90\nFrom: <sip:1>;tag=1\nTo: <sip:0>;tag=1\nCall-ID: 2\n"
                 + "CSeq: 91 BYE\nContent-Length: 0\n\n");
-        becomes("BYE in 3", Check.talking(), 1, goodBye(1), 9);
-        becomes("BYE in 6", accepted(), 1, goodBye(1), 9);
-        CallAgents y = Check.talking();
-        y.hang(1);
-        becomes("BYE in 8", y, 1, goodBye(1).body("m=9 1\n"), 9);
-        Check.due("200", Check.lastText(y).startsWith("SIP/2.0 200 OK\n"), true);
+        Check.told("nothing else", x, 0, 9, 1, 1, 2, 1, 2, 2, 3, 0);
+        CallAgents y = becomes("BYE in 8", Scene.HANGING_CALLED.make(), 1, goodBye(1).body("m=9 1\n"), 9);
+        Check.due("200", firstLine(y, 0), "SIP/2.0 200 OK");
         Check.due("agreed media stay", y.told(1, 6), 2);
+        CallAgents z = becomes("BYE in 6", Scene.ACCEPTED.make(), 1, goodBye(1), 9);
+        z.pass(32000);
+        Check.due("the timers end", z.told(1, 7), 3);
     }
 
     private static void isGone(String what, CallAgents x, int agent, Letter bye) {
-        int state = x.told(agent, 0);
-        becomes(what, x, agent, bye, state);
-        Check.due(what + ": 481, else as it came", Check.lastText(x),
-                bye.start("SIP/2.0 481 Gone").body("").text());
+        int[] before = {x.told(agent, 0), x.told(agent, 1), x.told(agent, 2), x.told(agent, 3), x.told(agent, 4),
+            x.told(agent, 5), x.told(agent, 6), x.told(agent, 7) + 1, x.told(agent, 8)};
+        Check.comes(what, x, agent, bye, false);
+        Check.told(what, x, agent, before);
+        Check.due(what + ": 481, else as it came", Check.text(x, 0), bye.start("SIP/2.0 481 Gone").body("").text());
     }
 
     private static void otherByes() {
+        Check.sentence("any other BYE: 481 (To as it came)");
         isGone("BYE in 0", new CallAgents(), 0, goodBye(0));
         isGone("BYE in 0, no tag", new CallAgents(), 1, Letter.request("BYE", 1).body("m=1 1\n"));
-        isGone("BYE in 1", calling(), 0, goodBye(0).fromTag(0));
+        isGone("BYE in 1", Scene.CALLING.make(), 0, goodBye(0).fromTag(0));
         isGone("BYE in 2", Check.ringing(), 0, goodBye(0).fromTag(0));
         isGone("BYE in 5", Check.ringing(), 1, goodBye(1));
-        isGone("BYE in 7", refused(), 1, goodBye(1));
-        CallAgents x = Check.talking();
-        isGone("BYE of another call", x, 0, goodBye(0).call(3));
-        isGone("BYE of another tag of the other", x, 0, goodBye(0).fromTag(2));
-        isGone("BYE of another tag of its own", x, 0, goodBye(0).toTag(2));
-        isGone("BYE without a To tag", x, 0, Letter.request("BYE", 0));
-        becomes("the right BYE", x, 0, goodBye(0), 9);
-        isGone("BYE in 9", x, 0, goodBye(0));
-        Check.due("all were sent", x.told(0, 7), 2 + 4 + 1 + 1);
+        isGone("BYE in 7", Scene.REFUSED.make(), 1, goodBye(1));
+        isGone("BYE in 9", Scene.OVER_BY_OK.make(), 0, goodBye(0));
+        isGone("BYE of another call", Check.talking(), 0, goodBye(0).call(3));
+        isGone("BYE of another tag of the other", Check.talking(), 0, goodBye(0).fromTag(2));
+        isGone("BYE of another tag of its own", Check.talking(), 0, goodBye(0).toTag(2));
+        isGone("BYE without a To tag", Check.talking(), 0, Letter.request("BYE", 0));
     }
 
     private static void ringing() {
-        CallAgents x = calling();
-        stays("180 of another branch", x, 0, Letter.response(RINGING, "INVITE", 0).branch(2));
-        stays("180 of another call", x, 0, Letter.response(RINGING, "INVITE", 0).call(4));
-        stays("180 of another SEQ", x, 0, Letter.response(RINGING, "INVITE", 0).seq(0));
-        stays("180 of another tag", x, 0, Letter.response(RINGING, "INVITE", 0).fromTag(2));
-        becomes("180 with a To tag and media", x, 0, Letter.response(RINGING, "INVITE", 0).toTag(8).body("m=1 1\n"), 2);
-        Check.told("neither is kept", x, 0, 2, 1, 0, 2, 1, 1, 0, 1, 4);
-        stays("180 in 2", x, 0, Letter.response(RINGING, "INVITE", 0));
-        stays("180 in 3", Check.talking(), 0, Letter.response(RINGING, "INVITE", 0));
-        stays("180 in 5", Check.ringing(), 1, Letter.response(RINGING, "INVITE", 1).seq(0));
-        becomes("180, only branch, call, SEQ and own tag count", calling(), 0, Letter.response(RINGING, "BYE", 0), 2);
+        Check.sentence("180 of its INVITE (branch, call, SEQ, own tag): 1 becomes 2 (timers end)");
+        Letter ringing = Letter.response(RINGING, "INVITE", 0).toTag(8).body("m=1 1\n");
+        CallAgents x = becomes("180 with a To tag and media", Scene.CALLING.make(), 0, ringing, 2);
+        Check.told("neither is kept", x, 0, 2, 1, 0, 2, 1, 1, 0, 1, 0);
+        becomes("180, only branch, call, SEQ and own tag count", Scene.CALLING.make(), 0,
+                Letter.response(RINGING, "BYE", 0), 2);
     }
 
     private static Letter okay() {
@@ -245,54 +246,45 @@ final class IncomingTest {
     }
 
     private static void okToInvite() {
-        for (int rings = 0; rings < 2; rings++) {
-            CallAgents x = rings == 0 ? calling() : Check.ringing();
-            stays("200 of another call", x, 0, okay().call(4));
-            stays("200 of another SEQ", x, 0, okay().seq(2));
-            stays("200 of another tag", x, 0, okay().fromTag(2));
-            stays("200 of a BYE", x, 0, okay().method("BYE"));
-            stays("200 of an ACK", x, 0, okay().method("ACK"));
-            stays("200 without a To tag", x, 0, Letter.response(OK, "INVITE", 0));
-            stays("481 of it", x, 0, Letter.response(GONE, "INVITE", 0).toTag(8));
-            becomes("200 of any branch", x, 0, okay().branch(55), 3);
-            Check.told("talking", x, 0, 3, 1, 8, 2, 1, 2, 1, 2, 7);
+        Check.sentence("the other's tag is known, the media are agreed: ACK is sent (new branch, SEQ of the INVITE): state 3");
+        for (Scene scene : new Scene[] {Scene.CALLING, Scene.RINGS_THERE}) {
+            CallAgents x = becomes("200 of any branch", scene.make(), 0, okay().branch(55), 3);
+            Check.told("talking", x, 0, 3, 1, 8, 2, 1, 2, 1, 2, 0);
             Check.agreed("as it came", x, 0, 0, 3, 3);
-            Check.due("the ACK", Check.lastText(x), "ACK sip:1 SIP/2.0\n"
+            Check.due("the ACK", Check.text(x, 0), "ACK sip:1 SIP/2.0\n"
                     + "Via: SIP/2.0/UDP 0;branch=z9hG4bK2\nFrom: <sip:0>;tag=1\nTo: <sip:1>;tag=8\nCall-ID: 2\n"
                     + "CSeq: 1 ACK\nContent-Length: 0\n\n");
+            stays("481 of the INVITE", scene.make(), 0, Letter.response(GONE, "INVITE", 0).toTag(8));
         }
-        stays("200 in 0", new CallAgents(), 0, okay().call(0).seq(0).fromTag(0));
     }
 
     private static void okAgain() {
-        CallAgents x = calling();
-        Check.comes("200", x, 0, okay(), false);
-        String ack = Check.lastText(x);
-        stays("200 again, another To tag", x, 0, okay().toTag(9));
-        stays("200 again, another call", x, 0, okay().call(9));
-        stays("200 again, another SEQ", x, 0, okay().seq(9));
-        stays("200 again, another tag", x, 0, okay().fromTag(9));
-        stays("486 in 3", x, 0, Letter.response(BUSY, "INVITE", 0).toTag(8));
-        Check.due("flying", x.flying(), 1);
-        becomes("200 again", x, 0, okay().branch(44).body("m=4 4\n"), 3);
-        Check.due("flying", x.flying(), 2);
-        Check.due("the ACK as it was", Check.lastText(x), ack);
-        Check.told("nothing else", x, 0, 3, 1, 8, 2, 1, 2, 1, 3, 5);
-        Check.agreed("still the first answer", x, 0, 0, 3, 3);
-        x.hang(0);
-        stays("200 of the INVITE in 8", x, 0, okay());
-        CallAgents y = Check.talking();
-        stays("200 to the one that was called", y, 1, Letter.response(OK, "INVITE", 1).toTag(1).seq(1));
-        stays("200 to the one that was called", y, 1, Letter.response(OK, "INVITE", 1).toTag(1).seq(0));
-        y.hang(1);
-        Check.bringAll(y);
-        y.invite(1);
-        Check.bringAll(y);
-        y.accept(0);
-        Check.bringAll(y);
-        Check.told("called by the one that it called before", y, 0, 3, 2, 2, 3, 1, 2, 1, 5, 0);
+        Check.sentence("in 3, with that tag, ACK is sent again as it was");
+        Letter again = okay().toTag(1).branch(44).body("m=4 4\n");
+        CallAgents x = becomes("200 again", Scene.TALKING_CALLER.make(), 0, again, 3);
+        Check.due("the ACK as it was", Check.text(x, 0), "ACK sip:1 SIP/2.0\n"
+                + "Via: SIP/2.0/UDP 0;branch=z9hG4bK2\nFrom: <sip:0>;tag=1\nTo: <sip:1>;tag=1\nCall-ID: 2\n"
+                + "CSeq: 1 ACK\nContent-Length: 0\n\n");
+        Check.told("nothing else", x, 0, 3, 1, 1, 2, 1, 2, 2, 3, 0);
+        Check.agreed("still the first answer", x, 0, 0, 5000, 1, 2);
+        stays("200 again, another To tag", Scene.TALKING_CALLER.make(), 0, okay().toTag(2));
+        stays("486 in 3", Scene.TALKING_CALLER.make(), 0, Letter.response(BUSY, "INVITE", 0).toTag(1));
+        stays("200 of the INVITE in 8", Scene.HANGING_CALLER.make(), 0, okay().toTag(1));
+    }
+
+    /** It has no INVITE and no ACK of its own in this call. */
+    private static void okToTheOneCalled() {
+        Check.sentence("200 of it (call, SEQ, own tag, method INVITE, a To tag)");
+        stays("200 to the one that was called", Check.talking(), 1, Letter.response(OK, "INVITE", 1).toTag(1).seq(1));
+        stays("200 to the one that was called", Check.talking(), 1, Letter.response(OK, "INVITE", 1).toTag(1).seq(0));
         for (int seq = 1; seq < 3; seq++) {
-            stays("200, but it sent no ACK in this call", y, 0,
+            CallAgents x = Scene.OVER_BY_OK.make();
+            x.invite(1);
+            Check.bringAll(x);
+            x.accept(0);
+            Check.bringAll(x);
+            Check.told("called by the one that it called before", x, 0, 3, 2, 2, 3, 2, 3, 1, 5, 0);
+            stays("200, but it sent no ACK in this call", x, 0,
                     Letter.response(OK, "INVITE", 0).call(3).fromTag(2).toTag(2).seq(seq));
         }
     }
@@ -302,71 +294,52 @@ final class IncomingTest {
     }
 
     private static void busyToInvite() {
-        for (int rings = 0; rings < 2; rings++) {
-            CallAgents x = rings == 0 ? calling() : Check.ringing();
-            stays("486 of another call", x, 0, busy().call(4));
-            stays("486 of another SEQ", x, 0, busy().seq(2));
-            stays("486 of another tag", x, 0, busy().fromTag(2));
-            stays("486 of another branch", x, 0, busy().branch(2));
-            stays("486 of a BYE", x, 0, busy().method("BYE"));
-            becomes("486", x, 0, rings == 0 ? busy() : busy().toTag(0).body("m=1 1\n"), 4);
-            Check.told("ended", x, 0, 4, 1, 0, 2, 1, 1, 0, 2, 5);
-            Check.due("the ACK", Check.lastText(x), "ACK sip:1 SIP/2.0\n"
-                    + "Via: SIP/2.0/UDP 0;branch=z9hG4bK1\nFrom: <sip:0>;tag=1\nTo: <sip:1>"
-                    + (rings == 0 ? "" : ";tag=0") + "\nCall-ID: 2\nCSeq: 1 ACK\nContent-Length: 0\n\n");
+        Check.sentence("with or without a To tag, which is not kept) in 1, 2: ACK is sent (branch of the INVITE, To as it"
+                + " came): state 4");
+        for (Scene scene : new Scene[] {Scene.CALLING, Scene.RINGS_THERE}) {
+            for (String tag : new String[] {"", ";tag=0", ";tag=7"}) {
+                Letter letter = tag.isEmpty() ? busy() : busy().toTag(tag.charAt(5) - '0').body("m=1 1\n");
+                CallAgents x = becomes("486", scene.make(), 0, letter, 4);
+                Check.told("ended", x, 0, 4, 1, 0, 2, 1, 1, 0, 2, 0);
+                Check.due("the ACK", Check.text(x, 0), "ACK sip:1 SIP/2.0\n"
+                        + "Via: SIP/2.0/UDP 0;branch=z9hG4bK1\nFrom: <sip:0>;tag=1\nTo: <sip:1>" + tag
+                        + "\nCall-ID: 2\nCSeq: 1 ACK\nContent-Length: 0\n\n");
+            }
         }
-        CallAgents y = calling();
-        becomes("486 with a To tag", y, 0, busy().toTag(7), 4);
-        Check.due("it is not kept", y.told(0, 2), 0);
     }
 
     private static void busyAgain() {
-        CallAgents x = calling();
-        Check.comes("486", x, 0, busy().toTag(7), false);
-        String ack = Check.lastText(x);
-        stays("486 again, another branch", x, 0, busy().branch(3));
-        stays("486 again, another tag", x, 0, busy().fromTag(3));
-        stays("200 in 4", x, 0, okay());
-        becomes("486 again", x, 0, busy(), 4);
-        Check.due("the ACK as it was", Check.lastText(x), ack);
-        Check.due("sent", x.told(0, 7), 3);
-        CallAgents y = calling();
-        y.pass(32000);
-        stays("486 when no ACK was sent", y, 0, busy());
-        CallAgents z = calling();
-        Check.comes("486", z, 0, busy(), false);
-        z.invite(0);
-        z.pass(32000);
-        stays("486 of the second call, when no ACK was sent", z, 0, busy().branch(2).call(4).seq(2).fromTag(2));
-        stays("486 of the first call", z, 0, busy());
+        Check.sentence("in 4, if an ACK was sent, that again");
+        CallAgents x = becomes("486 again", Scene.TURNED_DOWN.make(), 0, busy().toTag(7), 4);
+        Check.due("the ACK as it was", Check.text(x, 0), "ACK sip:1 SIP/2.0\n"
+                + "Via: SIP/2.0/UDP 0;branch=z9hG4bK1\nFrom: <sip:0>;tag=1\nTo: <sip:1>;tag=1\nCall-ID: 2\n"
+                + "CSeq: 1 ACK\nContent-Length: 0\n\n");
+        Check.told("nothing else", x, 0, 4, 1, 0, 2, 1, 1, 0, 3, 0);
+        stays("200 in 4", Scene.TURNED_DOWN.make(), 0, okay());
+        stays("486 when no ACK was sent", Scene.GAVE_UP.make(), 0, busy());
+        stays("486 of the second call, when no ACK was sent", secondGivenUp(), 0,
+                busy().branch(2).call(4).seq(2).fromTag(2));
+        stays("486 of the first call", secondGivenUp(), 0, busy());
     }
 
-    private static CallAgents hanging() {
-        CallAgents x = Check.talking();
-        x.hang(0);
-        x.lose(0);
+    /** The first call was turned down and acknowledged, the second one was given up. */
+    private static CallAgents secondGivenUp() {
+        CallAgents x = Scene.TURNED_DOWN.make();
+        x.invite(0);
+        x.pass(32000);
         return x;
     }
 
-    private static Letter end(String status) {
-        return Letter.response(status, "BYE", 0).branch(3).seq(2);
-    }
-
     private static void endOfBye() {
+        Check.sentence("200 or 481 of its BYE (branch, call, SEQ, method BYE) in 8: 9");
         for (String status : new String[] {OK, GONE}) {
-            CallAgents x = hanging();
-            stays(status + " of another branch", x, 0, end(status).branch(2));
-            stays(status + " of another call", x, 0, end(status).call(3));
-            stays(status + " of another SEQ", x, 0, end(status).seq(1));
-            stays(status + " of another method", x, 0, end(status).method("INVITE").toTag(1));
-            stays(status + " from the other", x, 0, end(status).via(1));
-            becomes(status + " of any tags", x, 0, end(status).fromTag(6).toTag(7).body("m=1 1\n"), 9);
-            Check.due("agreed media stay", x.told(0, 6), 2);
-            stays(status + " in 9", x, 0, end(status));
-            stays(status + " in 3", Check.talking(), 0, end(status).branch(2).seq(1));
+            Letter end = Letter.response(status, "BYE", 0).branch(3).seq(2).fromTag(6).toTag(7).body("m=1 1\n");
+            CallAgents x = becomes(status + " of any tags", Scene.HANGING_CALLER.make(), 0, end, 9);
+            Check.told("nothing else", x, 0, 9, 1, 1, 2, 2, 3, 2, 3, 0);
+            Check.due("nothing is sent", x.flying(), 0);
+            stays(status + " in 3", Check.talking(), 0, Letter.response(status, "BYE", 0).branch(2));
         }
-        CallAgents y = hanging();
-        stays("486 of the BYE", y, 0, end(BUSY));
-        stays("180 of the BYE", y, 0, end(RINGING));
+        stays("486 of the BYE", Scene.HANGING_CALLER.make(), 0, Letter.response(BUSY, "BYE", 0).branch(3).seq(2));
+        stays("180 of the BYE", Scene.HANGING_CALLER.make(), 0, Letter.response(RINGING, "BYE", 0).branch(3).seq(2));
     }
 }

@@ -1,129 +1,130 @@
 import java.util.Random;
 import java.util.regex.Matcher;
 
-/** Long runs of calls against the model: bad links, both agents calling, messages from outside that nearly fit. */
+/**
+ * Runs of calls against the model: bad links, both agents calling, messages from outside that nearly fit. An object has
+ * 512 calls, so a run keeps some of them for a look at its end: at the agents, the lines agreed, or a text.
+ */
 final class ModelTest {
-    private static final int RUNS = 400, CALLS = 250;
+    private static final int RUNS = 6000, CALLS = 512, LONGEST = 260, TOLD = 19;
     private static final String[] STARTS = {"INVITE", "ACK", "BYE", "180 Ringing", "200 OK", "486 Busy", "481 Gone"};
-    private static final String[] BODIES = {"", "", "m=9 1 0 1 7\n", "m=0 1\nm=7 2 1 1\n", "m=1 0\nm=2 1 3 7\nm=65535 5 1\n"};
+    private static final String[] BODIES = {"", "", "m=9 1 0 1 7\n", "m=0 1\nm=7 2 1 1\n",
+        "m=1 0\nm=2 1 3 7\nm=65535 5 1\n"};
 
     private final CallAgents x = new CallAgents();
     private final Model model = new Model();
     private final Random random;
-    private int seen;
+    private String name;
+    private int calls;
 
     private ModelTest(long seed) {
         random = new Random(seed);
+        name = "run " + seed;
     }
 
     public static void main(String[] args) {
         int seen = 0;
         for (int seed = 0; seed < RUNS; seed++) {
             ModelTest run = new ModelTest(seed);
-            run.run("run " + seed);
-            seen |= run.seen;
+            run.run(seed % 3);
+            seen |= 1 << run.model.agents[0].state | 1 << run.model.agents[1].state;
         }
         Check.due("all states were seen", seen, 1023);
         Check.finish("ModelTest");
     }
 
-    private void run(String name) {
-        for (int n = 0; n < CALLS; n++) {
-            String call = name + ", call " + n + ": " + step();
-            for (int agent = 0; agent < 2; agent++) {
-                Check.told(call, x, agent, model.agents[agent].told());
-                seen |= 1 << x.told(agent, 0);
-            }
-            Check.due(call + ": flying()", x.flying(), model.flight.size());
-            if (n % 25 == 24) {
-                compareTexts(call);
-            }
-        }
-    }
-
-    private void compareTexts(String call) {
-        for (int i = 0; i < model.flight.size(); i++) {
-            Check.due(call + ": message " + i, Check.text(x, i), model.flight.get(i));
+    private void run(int look) {
+        int last = CALLS - TOLD - (look == 0 ? 0 : LONGEST);
+        last = random.nextBoolean() ? last : 1 + random.nextInt(last);
+        boolean fromOutside = random.nextBoolean();
+        while (calls < last) {
+            calls++;
+            step(fromOutside && calls + LONGEST < last);
         }
         for (int agent = 0; agent < 2; agent++) {
-            for (int i = 0; i < model.agents[agent].agreed.size(); i++) {
-                String[] words = model.agents[agent].agreed.get(i).substring(2).split(" ");
-                int[] formats = new int[words.length - 1];
-                for (int f = 0; f < formats.length; f++) {
-                    formats[f] = Integer.parseInt(words[f + 1]);
-                }
-                Check.agreed(call, x, agent, i, Integer.parseInt(words[0]), formats);
-            }
+            Check.told(name, x, agent, model.agents[agent].told());
+        }
+        Check.due(name + ": flying()", x.flying(), model.flight.size());
+        if (look == 1 && !model.flight.isEmpty()) {
+            int i = random.nextInt(model.flight.size());
+            Check.due(name + ": message " + i, Check.text(x, i), model.flight.get(i));
+        }
+        if (look == 2) {
+            compareLines(0);
+            compareLines(1);
         }
     }
 
-    /** One call on both, and what it was. */
-    private String step() {
+    private void compareLines(int agent) {
+        for (int i = 0; i < model.agents[agent].agreed.size(); i++) {
+            String[] words = model.agents[agent].agreed.get(i).substring(2).split(" ");
+            int[] formats = new int[words.length - 1];
+            for (int f = 0; f < formats.length; f++) {
+                formats[f] = Integer.parseInt(words[f + 1]);
+            }
+            Check.agreed(name, x, agent, i, Integer.parseInt(words[0]), formats);
+        }
+    }
+
+    /** The answer of a call, and that of the model. */
+    private void due(String call, int got, int want) {
+        Check.due(name + ", call " + calls + ": " + call, got, want);
+    }
+
+    private void due(String call, boolean got, boolean want) {
+        Check.due(name + ", call " + calls + ": " + call, got, want);
+    }
+
+    private void step(boolean hasTimeForText) {
         int agent = random.nextInt(2);
         Model.Agent one = model.agents[agent];
-        int flying = model.flight.size();
-        switch (random.nextInt(16)) {
-            case 0:
-                return media(agent, one);
-            case 1, 2:
-                Check.due("invite(" + agent + ")", x.invite(agent), one.invite());
-                return "invite(" + agent + ")";
-            case 3, 4:
-                Check.due("accept(" + agent + ")", x.accept(agent), one.accept());
-                return "accept(" + agent + ")";
-            case 5:
-                boolean refuses = random.nextInt(3) == 0;
-                Check.due("refuse(" + agent + ")", refuses && x.refuse(agent), refuses && one.refuse());
-                return "refuse(" + agent + ")";
-            case 6:
-                Check.due("hang(" + agent + ")", x.hang(agent), one.hang());
-                return "hang(" + agent + ")";
-            case 7, 8:
-                int time = random.nextInt(12) == 0 ? 1 + random.nextInt(40000) : 100 * (1 + random.nextInt(8));
-                model.pass(time);
-                Check.due("pass(" + time + ")", x.pass(time), model.time);
-                return "pass(" + time + ")";
-            case 9, 10:
-                return inject(agent);
-            default:
-                return flying == 0 ? "nothing" : move(random.nextInt(random.nextBoolean() ? flying : Math.min(flying, 3)));
+        switch (random.nextInt(hasTimeForText ? 20 : 19)) {
+            case 0 -> media(agent, one);
+            case 1, 2 -> due("invite(" + agent + ")", x.invite(agent), one.invite());
+            case 3, 4, 5 -> due("accept(" + agent + ")", x.accept(agent), one.accept());
+            case 6 -> due("refuse(" + agent + ")", x.refuse(agent), one.refuse());
+            case 7 -> due("hang(" + agent + ")", x.hang(agent), one.hang());
+            case 8, 9 -> pass(random.nextInt(12) == 0 ? 1 + random.nextInt(40000) : 100 * (1 + random.nextInt(8)));
+            case 19 -> inject(agent);
+            default -> move(random.nextInt(Math.max(1, random.nextBoolean() ? model.flight.size() : 3)));
         }
     }
 
-    private String media(int agent, Model.Agent one) {
+    private void pass(int time) {
+        model.pass(time);
+        due("pass(" + time + ")", x.pass(time), model.time);
+    }
+
+    private void media(int agent, Model.Agent one) {
         int port = 1 + random.nextInt(65535);
         int formats = 1 + random.nextInt(255);
         boolean room = one.own.size() < 3;
         if (room) {
             one.media(port, formats);
         }
-        Check.due("media(" + agent + ", " + port + ", " + formats + ")", x.media(agent, port, formats),
+        due("media(" + agent + ", " + port + ", " + formats + ")", x.media(agent, port, formats),
                 room ? one.own.size() : CallAgents.BAD);
-        return "media(" + agent + ", " + port + ", " + formats + ")";
     }
 
-    private String move(int i) {
-        switch (random.nextInt(8)) {
-            case 0:
-                model.flight.remove(i);
-                Check.due("lose(" + i + ")", x.lose(i), model.flight.size());
-                return "lose(" + i + ")";
-            case 1, 2:
-                model.twice(i);
-                Check.due("twice(" + i + ")", x.twice(i), model.flight.size());
-                return "twice(" + i + ")";
-            default:
-                model.bring(i);
-                Check.due("bring(" + i + ")", x.bring(i), model.flight.size());
-                return "bring(" + i + ")";
+    private void move(int i) {
+        boolean there = i < model.flight.size();
+        int way = random.nextInt(8);
+        if (there && way == 0) {
+            model.flight.remove(i);
+        } else if (there && way <= 2) {
+            model.twice(i);
+        } else if (there) {
+            model.bring(i);
         }
+        int got = way == 0 ? x.lose(i) : way <= 2 ? x.twice(i) : x.bring(i);
+        due((way == 0 ? "lose(" : way <= 2 ? "twice(" : "bring(") + i + ")", got, there ? model.flight.size() : CallAgents.BAD);
     }
 
-    private String inject(int agent) {
+    private void inject(int agent) {
         String text = random.nextBoolean() && !model.flight.isEmpty() ? nearly() : fitting(agent);
-        Check.due("inject(" + agent + ")", Check.inject(x, agent, text), 0);
+        due("inject(" + agent + ") of\n" + text, Check.inject(x, agent, text), 0);
         model.agents[agent].receive(text);
-        return "inject(" + agent + ") of\n" + text;
+        calls += text.length();
     }
 
     /** A message in flight, one of its numbers put otherwise. */

@@ -83,26 +83,39 @@ final class PassTest {
         sendsAt("BYE", v, 1, 9, times);
     }
 
+    private static CallAgents accepted() {
+        CallAgents x = Check.ringing();
+        x.accept(1);
+        return x;
+    }
+
+    private static CallAgents hanging() {
+        CallAgents x = Check.talking();
+        x.hang(1);
+        return x;
+    }
+
     private static void textsStay() {
         Check.sentence("One that sends again (the text as it was)");
+        CallAgents first = Check.withMedia();
+        first.invite(0);
+        String invite = Check.text(first, 0);
         CallAgents x = Check.withMedia();
         x.invite(0);
         x.media(0, 4004, 1);
         x.pass(1500);
-        Check.due("INVITE again", Check.text(x, 1), Check.text(x, 0));
-        Check.due("INVITE again", Check.text(x, 2), Check.text(x, 0));
+        Check.due("INVITE again", Check.text(x, 1), invite);
+        Check.due("INVITE again", Check.text(x, 2), invite);
         Check.told("nothing else is changed", x, 0, 1, 1, 0, 2, 1, 1, 0, 3, 0);
-        CallAgents y = Check.ringing();
-        y.accept(1);
+        CallAgents y = accepted();
         y.media(1, 5002, 255);
         Check.comes("another INVITE", y, 1, Letter.request("INVITE", 1).branch(9).call(8), false);
         y.pass(500);
-        Check.due("200 again, not the 486", Check.text(y, 2), Check.text(y, 0));
-        CallAgents z = Check.talking();
-        z.hang(1);
+        Check.due("200 again, not the 486", Check.text(y, 2), Check.text(accepted(), 0));
+        CallAgents z = hanging();
         Check.comes("another BYE", z, 1, Letter.request("BYE", 1).call(8), false);
         z.pass(500);
-        Check.due("BYE again", Check.text(z, 2), Check.text(z, 0));
+        Check.due("BYE again", Check.text(z, 2), Check.text(hanging(), 0));
     }
 
     /** In these states nothing is sent again and nothing is given up. */

@@ -79,11 +79,12 @@ final class ToldTest {
             }
         }
         Check.sentence("Of an agreed line: 0 its port, 1 how many formats, 2 and on these. BAD: none such");
-        CallAgents y = Check.ringing();
-        Letter ok = Letter.response("200 OK", "INVITE", 0).toTag(1);
-        Check.comes("200", y, 0, ok.body("m=65535 0 1 2 3 4 5 6 7\nm=0 0\nm=9 7 7 7\n"), false);
+        Letter ok = Letter.response("200 OK", "INVITE", 0).toTag(1).body("m=65535 0 1 2 3 4 5 6 7\nm=0 0\nm=9 7 7 7\n");
         int[] formats = {8, 1, 3};
         for (int agent = -1; agent <= 2; agent++) {
+            CallAgents y = Check.ringing();
+            Check.comes("200", y, 0, ok, false);
+            Check.due("lines", y.told(0, 6), 3);
             for (int i = -1; i <= 4; i++) {
                 for (int what = -2; what <= 24; what++) {
                     boolean there = agent == 0 && i >= 0 && i < 3 && what >= 0 && what < 2 + formats[i];
@@ -91,7 +92,6 @@ final class ToldTest {
                 }
             }
         }
-        Check.due("lines", y.told(0, 6), 3);
     }
 
     private static void branchOfTheLastRequest() {

@@ -48,7 +48,7 @@ final class UnitTest {
             Check.due("unit, sign " + n, y.unit(' '), false);
         }
         Check.due("the first sign behind the message", y.inject(0), -10 - text.length());
-        Check.due("all is gone", Check.inject(y, 0, text), 0);
+        Check.due("all is gone", y.inject(0), -10);
     }
 
     private static void room() {
