@@ -278,12 +278,14 @@ final class IncomingTest {
         stays("200 to the one that was called", Check.talking(), 1, Letter.response(OK, "INVITE", 1).toTag(1).seq(1));
         stays("200 to the one that was called", Check.talking(), 1, Letter.response(OK, "INVITE", 1).toTag(1).seq(0));
         for (int seq = 1; seq < 3; seq++) {
-            CallAgents x = Scene.OVER_BY_OK.make();
+            CallAgents x = Check.talking();
+            x.hang(1);
+            Check.bringAll(x);
             x.invite(1);
             Check.bringAll(x);
             x.accept(0);
             Check.bringAll(x);
-            Check.told("called by the one that it called before", x, 0, 3, 2, 2, 3, 2, 3, 1, 5, 0);
+            Check.told("called by the one that it called before", x, 0, 3, 2, 2, 3, 1, 2, 1, 5, 0);
             stays("200, but it sent no ACK in this call", x, 0,
                     Letter.response(OK, "INVITE", 0).call(3).fromTag(2).toTag(2).seq(seq));
         }
