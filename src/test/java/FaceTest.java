@@ -19,6 +19,8 @@ final class FaceTest {
             + " | int sign(int, int) | int told(int, int) | int twice(int)";
     private static final String[] FORBIDDEN = {"throw", "try", "catch", "synchronized", "assert", "import", "package",
         "->", "::", "native", "Object", "System.currentTimeMillis", "random", "protected", "hashCode", "toString"};
+    private static final String LIBRARY = "String Math.max Math.min";
+    private static final int LONGEST_METHOD = 60;
 
     public static void main(String[] args) throws IOException {
         face();
@@ -34,6 +36,8 @@ final class FaceTest {
             String types = Arrays.toString(method.getParameterTypes()).replaceAll("[\\[\\]]", "");
             if (!Modifier.isPrivate(method.getModifiers())) {
                 methods.add(method.getReturnType() + " " + method.getName() + "(" + types + ")");
+            } else {
+                Check.due(method + " bears no public name", FACE.contains(" " + method.getName() + "("), false);
             }
         }
         Check.due("the methods", String.join(" | ", methods), FACE);
@@ -48,6 +52,7 @@ final class FaceTest {
         Check.due("constructors", constructors.length, 1);
         Check.due("its parameters", constructors[0].getParameterCount(), 0);
         Check.due("some twelve classes", face.getDeclaredClasses().length <= 11, true);
+        fields(face);
         for (Class<?> inner : face.getDeclaredClasses()) {
             inner(inner);
         }
@@ -55,17 +60,23 @@ final class FaceTest {
 
     private static void inner(Class<?> inner) {
         Check.due(inner + " is static", Modifier.isStatic(inner.getModifiers()), true);
-        int fields = 0;
-        for (Field field : inner.getDeclaredFields()) {
-            boolean fixed = Modifier.isStatic(field.getModifiers());
-            fields += fixed ? 0 : 1;
-            Check.due(field + " is final, if static", !fixed || Modifier.isFinal(field.getModifiers()), true);
-        }
-        Check.due(inner + ": some twenty fields", fields <= 20, true);
+        Check.due(inner + " is not public", Modifier.isPublic(inner.getModifiers()), false);
+        fields(inner);
         for (Method method : inner.getDeclaredMethods()) {
             Check.due(method + " bears no public name", FACE.contains(" " + method.getName() + "("), false);
             Check.due(method + ": at most seven parameters", method.getParameterCount() <= 7, true);
         }
+    }
+
+    private static void fields(Class<?> one) {
+        int fields = 0;
+        for (Field field : one.getDeclaredFields()) {
+            boolean fixed = Modifier.isStatic(field.getModifiers());
+            fields += fixed ? 0 : 1;
+            boolean constant = field.getType() == int.class || field.getType() == String.class;
+            Check.due(field + " is a constant, if static", !fixed || Modifier.isFinal(field.getModifiers()) && constant, true);
+        }
+        Check.due(one + ": some twenty fields", fields <= 20, true);
     }
 
     private static void language() throws IOException {
@@ -76,5 +87,31 @@ final class FaceTest {
             Check.due("the source has " + word, found.find(), false);
         }
         Check.due("texts hold signs 0 to 255", source.chars().allMatch(sign -> sign < 256), true);
+        library(code);
+        methodsAreShort(source);
+    }
+
+    /** Each name with a capital and small letters is a class of the file's own or one of the library's few. */
+    private static void library(String code) {
+        Set<String> own = new TreeSet<>(Set.of("CallAgents"));
+        for (Class<?> inner : CallAgents.class.getDeclaredClasses()) {
+            own.add(inner.getSimpleName());
+        }
+        Matcher name = Pattern.compile("(?<![\\w.])([A-Z]\\w*[a-z]\\w*)(\\.[a-z]\\w*)?").matcher(code);
+        while (name.find()) {
+            boolean listed = own.contains(name.group(1)) || (" " + LIBRARY + " ").contains(" " + name.group() + " ");
+            Check.due("LANGUAGE.md has " + name.group(), listed, true);
+        }
+    }
+
+    private static void methodsAreShort(String source) {
+        Matcher method = Pattern.compile("(?ms)^( {4}| {8})(?!static final class)\\S[^\\n;=]*\\) \\{\\n.*?^\\1\\}$").matcher(source);
+        int methods = 0;
+        while (method.find()) {
+            methods++;
+            String first = method.group().substring(0, method.group().indexOf('\n')).trim();
+            Check.due(first + " is short", method.group().lines().count() <= LONGEST_METHOD, true);
+        }
+        Check.due("methods were found", methods > 50, true);
     }
 }
